@@ -11,9 +11,11 @@ public final class ClocksTest {
         promise2();
         promise3();
         promise4Signs();
+        promise4LeftOut();
         promise4Numbers();
         promise4Marks();
         promise5();
+        promise5Parts();
         promise6();
         promise7();
         Check.end();
@@ -92,6 +94,17 @@ public final class ClocksTest {
         Check.due("fault: it stays on the page", Check.faultIn("1x"), 2);
     }
 
+    /** A part that is left out is missed where it ought to begin. */
+    private static void promise4LeftOut() {
+        String[] text = {"1xh1=1x1;s0;m1", "1x=1x1;s0;m1", "1x1h=1x1;s0;m1", "1x1h>1x1h1=1x1;s0;m1", "1x1=1x1;s0;m1",
+            "1h1=1x1;s0;m1", "1=1x1;s0;m1", "1x1h1;s0;m1", "1x1h1=;s0;m1", "1x1h1=1;s0;m1", "1x1h1=1x;s0;m1",
+            "1x1h1=1x1;0;m1", "1x1h1=1x1s0;m1", "1x1h1=1x1;m1", "1x1h1=1x1;s0m1", "1x1h1=1x1;s0;,", "1x1h1>=1x1;s0;m1"};
+        int[] want = {2, 2, 4, 4, 3, 1, 1, 5, 6, 7, 8, 10, 9, 10, 12, 13, 6};
+        for (int i = 0; i < text.length; i++) {
+            Check.due("fault: " + text[i], Check.faultIn(text[i]), want[i]);
+        }
+    }
+
     private static void promise4Numbers() {
         Check.due("fault: area 0", Check.faultIn("0"), 0);
         Check.due("fault: area 30", Check.faultIn("30x"), 3);
@@ -157,6 +170,18 @@ public final class ClocksTest {
         Check.due("clock: full", Check.clock(x, "1x1h1=1x1;s0;m1"), DroppingBalls.FULL);
         Check.due("clock: the page stays when full", x.count(3), 15);
         Check.due("clock: four", x.count(0), 4);
+    }
+
+    /** Of all that a text begins with, what ends behind a MARK alone is a CLOCK. */
+    private static void promise5Parts() {
+        String text = "10x20h30>1x2h3=40x50;s6;m7,8";
+        for (int length = 0; length <= text.length(); length++) {
+            boolean whole = text.substring(0, length).endsWith("m7") || length == text.length();
+            DroppingBalls x = new DroppingBalls();
+            Check.due("clock: " + text.substring(0, length), Check.clock(x, text.substring(0, length)),
+                    whole ? 0 : DroppingBalls.STATE);
+            Check.due("clock: what is on the page then", x.count(3), whole ? 0 : length);
+        }
     }
 
     private static void promise6() {

@@ -16,6 +16,8 @@ public final class DesignsTest {
         promise21();
         promise21Levels();
         promise22();
+        promise22LastDay();
+        promise22FirstBall();
         promise22Refusals();
         Check.end();
     }
@@ -41,6 +43,11 @@ public final class DesignsTest {
         worstIs(Check.with(STEADY), 1, 0, 0);
         x.faulty(1, 0, 20, 0);
         worstIs(x, 72, 3, 5);
+        DroppingBalls y = Check.with("10x10h10=10x50;s10;m8,15,22,29,36,43");
+        for (int s = 0; s < 4; s++) {
+            y.season(s, 1, 42);
+        }
+        worstIs(y, 0, 0, 0);
         Check.due("worst: what -1", x.worst(0, -1), OUTSIDE);
         Check.due("worst: what 3", x.worst(0, 3), OUTSIDE);
         Check.due("worst: unknown first", x.worst(1, 3), UNKNOWN);
@@ -110,6 +117,24 @@ public final class DesignsTest {
         Check.due("mended: the clock is as it was", x.told(0, 12), 10);
         x.season(1, 1, 24);
         Check.due("mended: by the season", x.mended(0, 1, 0, 1, 22), 0);
+    }
+
+    /**
+     * HOLE times 109 by 1000 drops come each TICK, of 220 that the BALL needs: 4 on day 0, 10 from
+     * day 52 on (it drops on 21), 11 on day 61 (on 19); THE TRUE TICK is 38.
+     */
+    private static void promise22LastDay() {
+        DroppingBalls x = Check.with("30x1h40=10x99;s60;m22");
+        x.season(0, 0, 109);
+        x.season(0, 1, 38);
+        Check.due("mended: ahead of day 60", x.mended(0, 0, 0, 1, 16), 52);
+        Check.due("mended: not on day 61", x.mended(0, 0, 0, 1, 17), NONE);
+    }
+
+    private static void promise22FirstBall() {
+        DroppingBalls x = Check.with("10x10h10=10x50;s10;m1,17,25,33,41,49");
+        Check.due("mended: the first ball alone is off", x.mended(0, 0, 0, 30, 7), 0);
+        Check.due("mended: by so much", x.mended(0, 0, 0, 30, 8), NONE);
     }
 
     private static void promise22Refusals() {

@@ -15,6 +15,7 @@ public final class LogsTest {
         promise25();
         promise26();
         promise26Edges();
+        promise26OfTwo();
         promise27();
         searchRefusals();
         twentySearches();
@@ -144,6 +145,18 @@ public final class LogsTest {
             }
         }
         Check.due("sought: cold", x.sought(0, 0, 4, 2, 0), cold);
+    }
+
+    /** Of two CLOCKS in turn: the first drops its BALL on TICK 7, the other on TICK 0. */
+    private static void promise26OfTwo() {
+        DroppingBalls x = Check.with(STEADY);
+        Check.clock(x, "1x60h40=10x9;s0;m1");
+        x.log(0, 7);
+        Check.due("sought: of the first", x.sought(0, 0, 3, 1, 0), 1920);
+        Check.due("sought: of the other", x.sought(1, 0, 3, 1, 0), 0);
+        x.log(0, 0);
+        Check.due("sought: of the first, too late", x.sought(0, 0, 3, 1, 0), 0);
+        Check.due("sought: of the other, in time", x.sought(1, 0, 3, 1, 0), 1920);
     }
 
     private static void lostIs(DroppingBalls x, int many, int hole, int supply) {

@@ -99,6 +99,8 @@ public final class RecordsTest {
         x.head(0);
         x.log(3, 9);
         x.log(4, 96);
+        x.season(0, 0, 55);
+        x.season(0, 1, 25);
         x.season(1, 0, 60);
         x.season(2, 1, 30);
         Check.due("image: two", x.image(), 2);
@@ -107,6 +109,8 @@ public final class RecordsTest {
         x.log(4, 5);
         x.log(0, 1);
         x.log(1, 2);
+        x.season(0, 0, 56);
+        x.season(0, 1, 26);
         x.season(1, 0, 70);
         x.season(2, 1, 40);
         x.season(3, 1, 50);
@@ -118,6 +122,8 @@ public final class RecordsTest {
         Check.due("restore: log 3", x.log(3, NONE), 9);
         Check.due("restore: log 4", x.log(4, NONE), 96);
         Check.due("restore: log 0", x.log(0, 7), NONE);
+        Check.due("restore: warmth of 0", x.season(0, 0, 57), 55);
+        Check.due("restore: daylight of 0", x.season(0, 1, 27), 25);
         Check.due("restore: warmth", x.season(1, 0, 80), 60);
         Check.due("restore: daylight", x.season(2, 1, 50), 30);
         Check.due("restore: daylight of 3", x.season(3, 1, 50), 48);

@@ -193,9 +193,11 @@ public final class RunsTest {
         int clog = x.faulty(1, 0, 20, 95);
         Check.due("even: least on the last tick", x.even(0, 0, clog, 0), 0);
         Check.due("even: greatest with it", x.even(0, 0, clog, 1), 10);
+        int whole = x.faulty(1, 0, 20, 0);
+        Check.due("even: nothing comes, though it did in another run", x.even(0, 0, whole, 1), 0);
         Check.due("even: what -1", x.even(0, 0, NONE, -1), OUTSIDE);
         Check.due("even: what 2", x.even(0, 0, NONE, 2), OUTSIDE);
-        Check.due("even: unknown first", x.even(0, 0, 1, 2), UNKNOWN);
+        Check.due("even: unknown first", x.even(0, 0, 2, 2), UNKNOWN);
         Check.due("even: clock", x.even(1, 0, NONE, 0), UNKNOWN);
     }
 

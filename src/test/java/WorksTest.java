@@ -23,6 +23,7 @@ public final class WorksTest {
         doors();
         cranks();
         crankOrder();
+        manyCranks();
         counts();
         manyFigures();
         promise18Refusals();
@@ -214,6 +215,21 @@ public final class WorksTest {
         Check.due("crank order: first", x.shows(0, 0, NONE, 10), 2);
         Check.due("crank order: second", x.shows(0, 0, NONE, 11), 2);
         Check.due("crank order: no third", x.shows(0, 0, NONE, 12), NONE);
+    }
+
+    /** Twelve BALLS through nine cranks: the gong is struck on TICKS 9 to 20. */
+    private static void manyCranks() {
+        DroppingBalls x = withMarks("1,2,3,4,5,6,7,8,9,10,11,12");
+        x.work(GONG, 0, NONE);
+        for (int i = 1; i < 10; i++) {
+            x.work(CRANK, 1, i - 1);
+        }
+        x.head(9);
+        showing("many cranks", x, 9 + 10 + 11 + 9 * 12, 0, NONE, NONE);
+        x.head(NONE);
+        showing("none left of them", x, 0, 0, NONE, NONE);
+        x.head(0);
+        showing("nor with another head", x, 78, 0, NONE, NONE);
     }
 
     private static void counts() {
