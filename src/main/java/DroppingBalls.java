@@ -7,7 +7,7 @@ import java.util.Arrays;
 public final class DroppingBalls {
     public static final int NONE = -1, UNKNOWN = -101, OUTSIDE = -102, STATE = -103, FULL = -104;
 
-    /** What error() tells for UNKNOWN: an ERROR may be below 0 itself. */
+    /** What error() tells for UNKNOWN, since an ERROR may be below 0 itself. */
     private static final int ERROR_UNKNOWN = -1001;
 
     private static final int MOST_CLOCKS = 4;
@@ -558,7 +558,6 @@ public final class DroppingBalls {
         return true;
     }
 
-    /** Goes through the run from its start with the WORKS at play. */
     private void playRun() {
         Work head = workOf(setting.head);
         play.start();
@@ -569,7 +568,7 @@ public final class DroppingBalls {
         }
     }
 
-    /** The size, the SEASON and the BALL of WORST go into the row for it. */
+    /** WORST is three numbers, in the order in which worst() tells them: they go into a row kept for it. */
     private void findWorst(Clock c) {
         worstFound[0] = NONE;
         for (int season = 0; season < SEASONS; season++) {
@@ -787,13 +786,12 @@ public final class DroppingBalls {
         return more;
     }
 
-    /** A CLOCK, as its text tells it. */
+    /** A CLOCK. Its rows have room for the most VESSELS and MARKS, so that one can be copied into another. */
     private static final class Clock {
         int vesselCount;
         final int[] area = new int[MOST_VESSELS];
         final int[] height = new int[MOST_VESSELS];
         final int[] hole = new int[MOST_VESSELS];
-        /** How many drops a VESSEL holds. */
         final int[] full = new int[MOST_VESSELS];
         int cylinderArea;
         int cylinderHeight;
@@ -1018,7 +1016,7 @@ public final class DroppingBalls {
         }
     }
 
-    /** A FAULT: what it makes of a HOLE and of WARMTH, and what leaks by it out of its VESSEL. */
+    /** A FAULT. One of KIND 0 stands for none in a RUN, since it does nothing. */
     private static final class Fault {
         int kind = PLAIN_FAULT;
         int vessel;
@@ -1107,11 +1105,11 @@ public final class DroppingBalls {
             emptied = 0;
             dropped = 0;
             Arrays.fill(dropTicks, NONE);
-            leastIn = Integer.MAX_VALUE;
+            leastIn = 0;
             mostIn = 0;
         }
 
-        /** Goes on from where another run is, by a FAULT of its own. */
+        /** All is taken over but the FAULT, since the other run goes on without it. */
         void branchFrom(Run other, Fault itsFault) {
             clock = other.clock;
             fault = itsFault;
@@ -1147,7 +1145,6 @@ public final class DroppingBalls {
             tick++;
         }
 
-        /** SUPPLY comes to the first VESSEL, and what goes out of each to the next one. */
         private void drip() {
             int warmthNow = fault.warmthOf(warmth, tick);
             int flow = clock.supply;
@@ -1164,7 +1161,7 @@ public final class DroppingBalls {
             }
             cylinder += flow;
             poured += flow;
-            leastIn = Math.min(leastIn, flow);
+            leastIn = tick == 0 ? flow : Math.min(leastIn, flow);
             mostIn = Math.max(mostIn, flow);
         }
 

@@ -98,8 +98,8 @@ public final class ClocksTest {
     private static void promise4LeftOut() {
         String[] text = {"1xh1=1x1;s0;m1", "1x=1x1;s0;m1", "1x1h=1x1;s0;m1", "1x1h>1x1h1=1x1;s0;m1", "1x1=1x1;s0;m1",
             "1h1=1x1;s0;m1", "1=1x1;s0;m1", "1x1h1;s0;m1", "1x1h1=;s0;m1", "1x1h1=1;s0;m1", "1x1h1=1x;s0;m1",
-            "1x1h1=1x1;0;m1", "1x1h1=1x1s0;m1", "1x1h1=1x1;m1", "1x1h1=1x1;s0m1", "1x1h1=1x1;s0;,", "1x1h1>=1x1;s0;m1"};
-        int[] want = {2, 2, 4, 4, 3, 1, 1, 5, 6, 7, 8, 10, 9, 10, 12, 13, 6};
+            "1x1h1=1x1;0;m1", "1x1h1=1x1s0;m1", "1x1h1=1x1;;m1", "1x1h1=1x1;m1", "1x1h1=1x1;s0m1", "1x1h1=1x1;s0;,", "1x1h1>=1x1;s0;m1"};
+        int[] want = {2, 2, 4, 4, 3, 1, 1, 5, 6, 7, 8, 10, 9, 10, 10, 12, 13, 6};
         for (int i = 0; i < text.length; i++) {
             Check.due("fault: " + text[i], Check.faultIn(text[i]), want[i]);
         }

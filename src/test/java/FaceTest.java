@@ -25,8 +25,8 @@ public final class FaceTest {
         "int sought(int, int, int, int, int)", "int lost(int, int, int, int)",
         "int span(int, int, int, int, int)", "int record(int, int, int, int, int)", "int image()",
         "int restore()", "int count(int)", "long digest()"};
-    private static final int[] EXTREMES = {Integer.MIN_VALUE, Integer.MIN_VALUE + 1, -102, -2, -1, 0, 1, 2, 3, 4, 11, 12,
-        51, 95, 96, 97, Integer.MAX_VALUE - 1, Integer.MAX_VALUE};
+    private static final int[] EXTREMES = {Integer.MIN_VALUE, Integer.MIN_VALUE + 1, -102, -2, -1, 0, 1, 2, 3, 4, 5, 8, 9,
+        10, 11, 12, 13, 51, 95, 96, 97, Integer.MAX_VALUE - 1, Integer.MAX_VALUE};
     private static final String[] FORBIDDEN = {"\\bcatch\\b", "\\bthrow\\b", "\\bthrows\\b", "\\bfinally\\b", "->", "::",
         "\\bsynchronized\\b", "\\bassert\\b", "\\binstanceof\\b", "\\bString\\.format\\b", "\\bSystem\\.out\\b", "\\bvar\\b",
         "\\bpackage\\b", "\\bhashCode\\b", "\\bequals\\b", "Exact\\(", "\\bfloat\\b", "\\bdouble\\b", "\\bprotected\\b",
