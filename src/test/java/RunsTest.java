@@ -195,9 +195,18 @@ public final class RunsTest {
         Check.due("even: greatest with it", x.even(0, 0, clog, 1), 10);
         int whole = x.faulty(1, 0, 20, 0);
         Check.due("even: nothing comes, though it did in another run", x.even(0, 0, whole, 1), 0);
+        // From TICK 1 on 11 and 9 by turns, 11 on the last one.
+        int byTurns = x.faulty(2, 0, 1, 1);
+        Check.due("even: least, though more comes at last", x.even(0, 0, byTurns, 0), 9);
+        Check.due("even: greatest by turns", x.even(0, 0, byTurns, 1), 11);
+        // SUPPLY keeps the vessel full: 10 on TICK 0, 15 from then on.
+        DroppingBalls y = Check.with("10x10h10=10x50;s60;m8");
+        int wear = y.faulty(2, 0, 5, 1);
+        Check.due("even: least on the first tick", y.even(0, 0, wear, 0), 10);
+        Check.due("even: greatest behind it", y.even(0, 0, wear, 1), 15);
         Check.due("even: what -1", x.even(0, 0, NONE, -1), OUTSIDE);
         Check.due("even: what 2", x.even(0, 0, NONE, 2), OUTSIDE);
-        Check.due("even: unknown first", x.even(0, 0, 2, 2), UNKNOWN);
+        Check.due("even: unknown first", x.even(0, 0, 3, 2), UNKNOWN);
         Check.due("even: clock", x.even(1, 0, NONE, 0), UNKNOWN);
     }
 
