@@ -2,15 +2,21 @@
 final class Check {
     private static int wrong = 0;
     private static int done = 0;
+    private static String words = "";
 
     private Check() {
+    }
+
+    /** The words of the document by which the answers that follow are due: told with each that is not. */
+    static void by(String itsWords) {
+        words = "\"" + itsWords + "\": ";
     }
 
     static void due(String call, long got, long want) {
         done++;
         if (got != want) {
             wrong++;
-            System.out.println(call + " answered " + got + ", due is " + want);
+            System.out.println(words + call + " answered " + got + ", due is " + want);
         }
     }
 
