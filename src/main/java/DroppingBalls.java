@@ -333,11 +333,11 @@ public final class DroppingBalls {
         }
         // Between two days of wear nothing changes, so the first of them tells of all.
         spareClock.copyFrom(c);
-        for (int day = 0; day <= LAST_DAY; day += days) {
+        for (int worn = 0; worn <= LAST_DAY && worn * days <= LAST_DAY; worn++) {
             run.start(spareClock, warmthOf(season), noFault);
             run.goOnTo(TICKS);
             if (run.hasErrorAbove(t, daylightOf(season))) {
-                return day;
+                return worn * days;
             }
             spareClock.widen(vessel);
         }

@@ -8,8 +8,8 @@ final class Check {
     }
 
     /** The words of the document by which the answers that follow are due: told with each that is not. */
-    static void by(String itsWords) {
-        words = "\"" + itsWords + "\": ";
+    static void by(String... itsWords) {
+        words = "\"" + String.join("\", \"", itsWords) + "\": ";
     }
 
     static void due(String call, long got, long want) {
@@ -52,6 +52,20 @@ final class Check {
         DroppingBalls x = new DroppingBalls();
         due("clock() of " + text, clock(x, text), 0);
         return x;
+    }
+
+    /** A new object with a CLOCK by which the BALL of MARK m drops on TICK m - 1. */
+    static DroppingBalls withMarks(String marks) {
+        return with("10x10h10=10x99;s10;m" + marks);
+    }
+
+    /** So many MARKS, from 1 on in steps. */
+    static String marks(int many, int step) {
+        StringBuilder marks = new StringBuilder();
+        for (int i = 0; i < many; i++) {
+            marks.append(i > 0 ? "," : "").append(1 + i * step);
+        }
+        return marks.toString();
     }
 
     /** Where fault() is in a text alone on THE PAGE. */

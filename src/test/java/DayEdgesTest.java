@@ -9,7 +9,7 @@ public final class DayEdgesTest {
     private static final int COLD = 4;
     /** Ten drops a TICK, LEVEL of the CYLINDER behind TICK t is t + 1: it is never full. */
     private static final String STEADY = "10x10h10=10x99;s10;m99";
-    private static final String TWELVE = "1,2,3,4,5,6,7,8,9,10,11,12";
+    private static final String TWELVE = Check.marks(12, 1);
 
     private DayEdgesTest() {
     }
@@ -99,9 +99,9 @@ public final class DayEdgesTest {
         }
         Check.due("at the least number", x.at(0, 0, NONE, Integer.MIN_VALUE, 3), OUTSIDE);
         Check.due("at the greatest number", x.at(0, 0, NONE, Integer.MAX_VALUE, 3), OUTSIDE);
-        Check.due("a BALL on the last TICK", Check.with("10x10h10=10x99;s10;m96").drops(0, 0, NONE, 0), 95);
-        Check.due("a BALL behind it", Check.with("10x10h10=10x99;s10;m97").drops(0, 0, NONE, 0), NONE);
-        Check.due("a BALL on TICK 0", Check.with("10x10h10=10x99;s10;m1").drops(0, 0, NONE, 0), 0);
+        Check.due("a BALL on the last TICK", Check.withMarks("96").drops(0, 0, NONE, 0), 95);
+        Check.due("a BALL behind it", Check.withMarks("97").drops(0, 0, NONE, 0), NONE);
+        Check.due("a BALL on TICK 0", Check.withMarks("1").drops(0, 0, NONE, 0), 0);
     }
 
     private static void fullAtFirst() {
@@ -202,7 +202,7 @@ public final class DayEdgesTest {
                 Check.due("on it" + of, ticks > 96 ? 1 : x.at(0, 0, NONE, ticks - 1, 4), 1);
             }
         }
-        DroppingBalls x = Check.with("10x10h10=10x99;s10;m1,96,97");
+        DroppingBalls x = Check.withMarks("1,96,97");
         int[] ticks = {-1, 0, 1, 2, 3, Integer.MIN_VALUE, Integer.MAX_VALUE};
         int[] want = {UNKNOWN, 0, 95, NONE, UNKNOWN, UNKNOWN, UNKNOWN};
         for (int i = 0; i < ticks.length; i++) {
@@ -263,9 +263,9 @@ public final class DayEdgesTest {
     private static void trueTicks() {
         Check.by("THE TRUE TICK of HOUR i (from 0): i and 1 times DAYLIGHT, by how many MARKS there are, rounded down");
         for (int many = 1; many <= 12; many++) {
-            String marks = TWELVE.substring(0, many < 10 ? 2 * many - 1 : 3 * many - 10);
+            String marks = Check.marks(many, 1);
             for (int daylight = 24; daylight <= 72; daylight++) {
-                DroppingBalls x = Check.with("10x10h10=10x99;s10;m" + marks);
+                DroppingBalls x = Check.withMarks(marks);
                 x.season(3, 1, daylight);
                 for (int ball = 0; ball < many; ball++) {
                     Check.due("BALL " + ball + " of " + many + " by a DAYLIGHT of " + daylight, x.error(0, 3, NONE, ball),
@@ -284,18 +284,18 @@ public final class DayEdgesTest {
             Check.due("BALL " + ball + " by the least DAYLIGHT", x.error(0, 1, NONE, ball), 96 - 2 * (ball + 1));
             Check.due("BALL " + ball + " by the greatest DAYLIGHT", x.error(0, 2, NONE, ball), 96 - 6 * (ball + 1));
         }
-        DroppingBalls y = Check.with("10x10h10=10x99;s10;m1");
+        DroppingBalls y = Check.withMarks("1");
         y.season(0, 1, 72);
         Check.due("the least ERROR", y.error(0, 0, NONE, 0), -72);
-        DroppingBalls z = Check.with("10x10h10=10x99;s10;m96");
+        DroppingBalls z = Check.withMarks("96");
         Check.due("on TICK 95", z.error(0, 0, NONE, 0), 95 - 48);
-        DroppingBalls never = Check.with("10x10h10=10x99;s10;m97");
+        DroppingBalls never = Check.withMarks("97");
         Check.due("never", never.error(0, 0, NONE, 0), 96 - 48);
     }
 
     private static void errorOfNothing() {
         Check.by("ERROR (it may be below 0). -1001: UNKNOWN");
-        DroppingBalls x = Check.with("10x10h10=10x99;s10;m1,2,3");
+        DroppingBalls x = Check.withMarks("1,2,3");
         x.faulty(0, 0, 1, 0);
         int[][] unknown = {{-1, 0, NONE, 0}, {1, 0, NONE, 0}, {0, -1, NONE, 0}, {0, 4, NONE, 0}, {0, 0, -2, 0},
             {0, 0, 1, 0}, {0, 0, NONE, -1}, {0, 0, NONE, 3}, {9, 9, 9, 9}};
@@ -307,7 +307,8 @@ public final class DayEdgesTest {
     }
 
     private static void whatAtTells() {
-        Check.by("what = 0 to 2 drops in a VESSEL (NONE: no such VESSEL), 3 drops in the CYLINDER, 4 how many BALLS have dropped, 5 drops run over so far, 6 leaked so far, 7 how often the SIPHON emptied");
+        Check.by("what = 0 to 2 drops in a VESSEL (NONE: no such VESSEL), 3 drops in the CYLINDER, 4 how many BALLS have dropped",
+                "5 drops run over so far, 6 leaked so far, 7 how often the SIPHON emptied. OUTSIDE: tick, what");
         String[] texts = {"10x10h10=10x1;s11;m1", "10x10h10>10x10h10=10x1;s11;m1", "10x10h10>10x10h10>10x10h10=10x1;s11;m1"};
         int[][] want = {{90 - 2, NONE, NONE, 0, 1, 11, 2, 1}, {88, 90, NONE, 0, 1, 21, 2, 1}, {88, 90, 90, 0, 1, 31, 2, 1}};
         for (int many = 0; many < 3; many++) {
@@ -348,9 +349,9 @@ public final class DayEdgesTest {
     private static void means() {
         Check.by("MEAN, in lowest terms: part 0 above, 1 below");
         for (int many = 1; many <= 12; many++) {
-            String marks = TWELVE.substring(0, many < 10 ? 2 * many - 1 : 3 * many - 10);
+            String marks = Check.marks(many, 1);
             for (int daylight = 24; daylight <= 72; daylight++) {
-                DroppingBalls x = Check.with("10x10h10=10x99;s10;m" + marks);
+                DroppingBalls x = Check.withMarks(marks);
                 x.season(0, 1, daylight);
                 int sum = 0;
                 for (int ball = 0; ball < many; ball++) {
@@ -361,7 +362,7 @@ public final class DayEdgesTest {
                 Check.due("below, " + many + " by a DAYLIGHT of " + daylight, x.mean(0, 0, NONE, 1), many / common);
             }
         }
-        DroppingBalls exact = Check.with("10x10h10=10x99;s10;m17,33,49");
+        DroppingBalls exact = Check.withMarks("17,33,49");
         Check.due("nothing is off: above", exact.mean(0, 0, NONE, 0), 0);
         Check.due("nothing is off: below", exact.mean(0, 0, NONE, 1), 1);
         for (int part : new int[] {-1, 2, Integer.MIN_VALUE, Integer.MAX_VALUE}) {
@@ -373,7 +374,8 @@ public final class DayEdgesTest {
     // ---- FAULTS in a RUN
 
     private static void faultNumbers() {
-        Check.by("a CLOG: HOLE of VESSEL v is n less (0 at least); a WEAR: n more; a LEAK: behind 2, n drops are gone; COLD: WARMTH is n less");
+        Check.by("a number n (1 to 20)", "a CLOG: HOLE of VESSEL v is n less (0 at least); a WEAR: n more",
+                "are gone from VESSEL v; COLD: WARMTH is n less");
         for (int n = 1; n <= 20; n++) {
             DroppingBalls x = Check.with(STEADY);
             for (int kind = 0; kind <= 4; kind++) {

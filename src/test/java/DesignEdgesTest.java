@@ -6,13 +6,14 @@ public final class DesignEdgesTest {
     /** Each BALL drops on THE TRUE TICK of 48 TICKS of DAYLIGHT. */
     private static final String EXACT = "10x10h10=10x99;s10;m9,17,25,33,41,49";
     private static final String STEADY = "10x10h10=10x99;s10;m8,16,24,32,40,48";
-    private static final String TWELVE = "1,2,3,4,5,6,7,8,9,10,11,12";
+    private static final String TWELVE = Check.marks(12, 1);
 
     private DesignEdgesTest() {
     }
 
     public static void main(String[] args) {
         worstOfAll();
+        worstOfFourSeasons();
         theFirstByWhichItIs();
         worstRefusals();
         betterOfTwo();
@@ -65,10 +66,22 @@ public final class DesignEdgesTest {
         worstIs("the greatest there is", never, 94, 3, 0);
     }
 
+    /** No other SEASON than the four counts, and nothing is left of a WORST told ahead. */
+    private static void worstOfFourSeasons() {
+        DroppingBalls x = Check.withMarks("8,15,22,29,36,43");
+        worstIs("by a DAYLIGHT of 48", x, 6, 0, 5);
+        for (int s = 0; s < 3; s++) {
+            x.season(s, 1, 42);
+            worstIs("by a DAYLIGHT of 42 up to SEASON " + s, x, 6, s + 1, 5);
+        }
+        x.season(3, 1, 42);
+        worstIs("by a DAYLIGHT of 42 in all", x, 0, 0, 0);
+    }
+
     private static void theFirstByWhichItIs() {
         Check.by("1 the SEASON, 2 the BALL by which it is (the first)");
         worstIs("all BALLS in all SEASONS one early", Check.with(STEADY), 1, 0, 0);
-        DroppingBalls x = Check.with("10x10h10=10x99;s10;m9,19,25,35,41,49");
+        DroppingBalls x = Check.withMarks("9,19,25,35,41,49");
         worstIs("of BALLS 1 and 3", x, 2, 0, 1);
         DroppingBalls y = Check.with(EXACT);
         y.season(3, 1, 60);
@@ -79,7 +92,7 @@ public final class DesignEdgesTest {
     }
 
     private static void worstRefusals() {
-        Check.by("what = 0 its size, 1 the SEASON, 2 the BALL; UNKNOWN; OUTSIDE");
+        Check.by("WORST of a CLOCK, without a FAULT: what = 0 its size, 1 the SEASON, 2 the BALL by which it is (the first). UNKNOWN; OUTSIDE");
         DroppingBalls x = Check.with(EXACT);
         int[] outside = {-2, -1, 3, 4, Integer.MIN_VALUE, Integer.MAX_VALUE};
         for (int what : outside) {
@@ -119,7 +132,7 @@ public final class DesignEdgesTest {
     }
 
     private static void leastAndGreatestMarks() {
-        Check.by("the least MARK (1 to 99), by which its BALL would drop on THE TRUE TICK; NONE: there is none");
+        Check.by("the least MARK (1 to 99), all else as it is, by which its BALL would drop on THE TRUE TICK", "NONE: there is none");
         // Four drops a TICK: 96 behind TICK 23, 100 behind TICK 24.
         Check.due("1: ahead of it 0", markOn("30x10h4=99x99;s10", 24), 1);
         Check.due("1: by one drop", markOn("30x10h4=97x99;s10", 24), 1);
@@ -158,7 +171,7 @@ public final class DesignEdgesTest {
     }
 
     private static void marksOneByOne() {
-        DroppingBalls x = Check.with("10x10h10=10x99;s10;m" + "94,95,96,97,98,99");
+        DroppingBalls x = Check.withMarks("94,95,96,97,98,99");
         for (int hour = 0; hour < 6; hour++) {
             Check.due("whatever the MARKS are, HOUR " + hour, x.mark(0, 0, hour), 8 * hour + 9);
         }
@@ -205,7 +218,7 @@ public final class DesignEdgesTest {
 
     private static void mendedAboveT() {
         Check.by("some size of ERROR in a SEASON is above t");
-        DroppingBalls x = Check.with("10x10h10=10x99;s10;m1");
+        DroppingBalls x = Check.withMarks("1");
         x.season(1, 1, 72);
         for (int t = -3; t <= 99; t++) {
             int want = t < 0 || t > 96 ? OUTSIDE : t < 48 ? 0 : NONE;
@@ -213,6 +226,10 @@ public final class DesignEdgesTest {
         }
         Check.due("72 above 71", x.mended(0, 1, 0, 1, 71), 0);
         Check.due("72 above 72", x.mended(0, 1, 0, 1, 72), NONE);
+        DroppingBalls last = Check.withMarks("96");
+        last.season(0, 1, 24);
+        Check.due("71 above 70, on TICK 95", last.mended(0, 0, 0, 30, 70), 0);
+        Check.due("71 above 71, on TICK 95", last.mended(0, 0, 0, 30, 71), NONE);
         DroppingBalls never = Check.with("1x1h1=1x1;s0;m" + TWELVE);
         never.season(0, 1, 24);
         Check.due("94 above 93", never.mended(0, 0, 0, 30, 93), 0);
@@ -224,7 +241,7 @@ public final class DesignEdgesTest {
      * drops on TICK 2, with 50 on TICK 1, with 100 (on DAY 60) on TICK 0. THE TRUE TICK is 24.
      */
     private static void mendedUntilDay60() {
-        Check.by("the first DAY (0 to 60) on which; NONE: on no DAY of 0 to 60");
+        Check.by("the first DAY (0 to 60) on which some size of ERROR in a SEASON is above t", "NONE: on no DAY of 0 to 60");
         DroppingBalls x = Check.with("30x10h40=50x99;s60;m2");
         Check.clock(x, "30x10h39=50x99;s60;m2");
         x.season(0, 1, 24);

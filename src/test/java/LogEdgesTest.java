@@ -33,21 +33,17 @@ public final class LogEdgesTest {
         lostLeastAndGreatestHole();
         lostLeastAndGreatestSupply();
         lostOfEachVessel();
+        searchesOfEachClock();
         searchesThatAreRefused();
         twentySearches();
         twentyOfEach();
         Check.end();
     }
 
-    /** A CLOCK whose BALL of MARK m drops on TICK m - 1. */
-    private static DroppingBalls withMarks(String marks) {
-        return Check.with("10x10h10=10x99;s10;m" + marks);
-    }
-
     // ---- THE LOG
 
     private static void ballsOfTheLog() {
-        Check.by("THE LOG of a BALL (0 to 11). UNKNOWN: ball");
+        Check.by("THE LOG of a BALL (0 to 11) becomes a TICK", "UNKNOWN: ball; OUTSIDE");
         DroppingBalls x = new DroppingBalls();
         for (int ball = -4; ball <= 15; ball++) {
             boolean fits = ball >= 0 && ball <= 11;
@@ -78,8 +74,8 @@ public final class LogEdgesTest {
     }
 
     private static void anEmptyAndAFullLog() {
-        Check.by("A LOG: of some BALLS the TICK on which they dropped; A RUN AGREES with THE LOG, if all of it is so");
-        DroppingBalls x = withMarks("1,2,3,4,5,6,7,8,9,10,11,12");
+        Check.by("A LOG: of some BALLS the TICK on which they dropped", "A RUN AGREES with THE LOG, if all of it is so");
+        DroppingBalls x = Check.withMarks(Check.marks(12, 1));
         Check.due("empty", x.agrees(0, 0, NONE), 1);
         for (int ball = 0; ball < 12; ball++) {
             x.log(ball, ball);
@@ -102,7 +98,7 @@ public final class LogEdgesTest {
     private static void agreesOnItsTickAlone() {
         int[] due = {9, 19, NEVER};
         for (int ball = 0; ball < 3; ball++) {
-            DroppingBalls x = withMarks("10,20,97");
+            DroppingBalls x = Check.withMarks("10,20,97");
             for (int tick = 0; tick <= NEVER; tick++) {
                 x.log(ball, tick);
                 Check.due("BALL " + ball + " on TICK " + tick, x.agrees(0, 0, NONE), tick == due[ball] ? 1 : 0);
@@ -112,7 +108,7 @@ public final class LogEdgesTest {
 
     private static void agreesOnTheFirstAndLastTick() {
         Check.by("(96: it did not)");
-        DroppingBalls x = withMarks("1,96,97");
+        DroppingBalls x = Check.withMarks("1,96,97");
         int[][] logs = {{0, 95, 96, 1}, {1, 95, 96, 0}, {0, 94, 96, 0}, {0, 96, 96, 0}, {0, 95, 95, 0}, {96, 96, 96, 0},
             {NONE, 95, NONE, 1}, {NONE, NONE, 96, 1}, {0, NONE, NONE, 1}, {0, 0, NONE, 0}, {95, 0, NONE, 0}};
         for (int[] told : logs) {
@@ -125,7 +121,7 @@ public final class LogEdgesTest {
 
     private static void ballsThatAClockHasNot() {
         Check.by("(BALLS that a CLOCK has not: NEVER)");
-        DroppingBalls x = withMarks("1,2,3");
+        DroppingBalls x = Check.withMarks("1,2,3");
         x.faulty(0, 0, 1, 0);
         for (int ball = 3; ball < 12; ball++) {
             for (int tick : new int[] {0, 3, 95, NEVER}) {
@@ -146,7 +142,7 @@ public final class LogEdgesTest {
 
     private static void agreesOfNothing() {
         Check.by("UNKNOWN: clock, season, fault");
-        DroppingBalls x = withMarks("1");
+        DroppingBalls x = Check.withMarks("1");
         x.faulty(0, 0, 1, 0);
         int[][] unknown = {{-1, 0, 0}, {1, 0, 0}, {0, -1, 0}, {0, 4, 0}, {0, 0, -2}, {0, 0, 1}};
         for (int[] u : unknown) {
@@ -163,7 +159,7 @@ public final class LogEdgesTest {
     private static void whichAsBits() {
         Check.by("FAULTS by which the RUN AGREES, as bits (bit 8: without one)");
         for (int own = 0; own < 8; own++) {
-            DroppingBalls x = withMarks("10,20");
+            DroppingBalls x = Check.withMarks("10,20");
             for (int fault = 0; fault < 8; fault++) {
                 x.faulty(fault == own ? CLOG : 0, 0, 20, 15);
                 Check.due("nothing told", x.which(0, 0), 256 + (2 << fault) - 1);
@@ -178,7 +174,7 @@ public final class LogEdgesTest {
     }
 
     private static void whichWithoutOne() {
-        DroppingBalls x = withMarks("10");
+        DroppingBalls x = Check.withMarks("10");
         Check.due("no FAULTS, nothing told", x.which(0, 0), 256);
         x.log(0, 9);
         Check.due("no FAULTS, so", x.which(0, 0), 256);
@@ -197,11 +193,11 @@ public final class LogEdgesTest {
 
     private static void soughtOfAnEmptyLog() {
         Check.by("SOUGHT: of a KIND (1 to 4) and VESSEL all n (1 to 20) and c (0 to 95) by which the RUN AGREES");
-        DroppingBalls x = withMarks("10");
+        DroppingBalls x = Check.withMarks("10");
         for (int kind = CLOG; kind <= COLD; kind++) {
             soughtIs("KIND " + kind + " by an empty LOG", x, kind, FAULT_PAIRS, 1, 0, 20);
         }
-        DroppingBalls none = withMarks("10");
+        DroppingBalls none = Check.withMarks("10");
         none.log(0, 0);
         for (int kind = CLOG; kind <= COLD; kind++) {
             soughtIs("KIND " + kind + " by none", none, kind, 0, NONE, NONE, NONE);
@@ -222,7 +218,7 @@ public final class LogEdgesTest {
     }
 
     private static void soughtLeastAndGreatestC() {
-        DroppingBalls x = withMarks("1,95,96");
+        DroppingBalls x = Check.withMarks("1,95,96");
         x.log(1, 94);
         x.log(2, NEVER);
         soughtIs("from the last TICK on alone", x, CLOG, 20, 1, 95, 20);
@@ -237,7 +233,7 @@ public final class LogEdgesTest {
 
     private static void soughtOfAVesselThatItHasNot() {
         Check.by("OUTSIDE: kind, vessel, what");
-        DroppingBalls x = withMarks("10");
+        DroppingBalls x = Check.withMarks("10");
         x.log(0, 9);
         for (int kind = -1; kind <= 6; kind++) {
             for (int vessel = -2; vessel <= 4; vessel++) {
@@ -271,7 +267,7 @@ public final class LogEdgesTest {
 
     private static void lostOfAnEmptyLog() {
         Check.by("LOST: a CLOCK whose HOLE of one VESSEL (1 to 40) and SUPPLY (0 to 60) are not known: all by which the RUN without a FAULT AGREES");
-        DroppingBalls x = withMarks("10");
+        DroppingBalls x = Check.withMarks("10");
         lostIs("an empty LOG", x, 0, CLOCK_PAIRS, 1, 0);
         x.log(0, 96);
         x.log(11, 96);
@@ -331,11 +327,31 @@ public final class LogEdgesTest {
         }
     }
 
+    /** What is read, worn or sought ahead of a search leaves nothing behind for it. */
+    private static void searchesOfEachClock() {
+        Check.by("SOUGHT: of a KIND (1 to 4)", "LOST: a CLOCK whose HOLE of one VESSEL (1 to 40)");
+        DroppingBalls x = Check.with("30x10h1=38x99;s0;m1");
+        Check.clock(x, "30x10h40=40x99;s0;m1,2");
+        x.log(0, 0);
+        Check.type(x, "1x2h3>4x5h6");
+        int[][] lost = {{3 * 61, 38, 0}, {61, 40, 0}};
+        int[] leaks = {0, 1920};
+        for (int clock : new int[] {0, 1, 0, 1}) {
+            Check.due("the page is read", x.fault(), 11);
+            Check.due("LOST of CLOCK " + clock, x.lost(clock, 0, 0, 0), lost[clock][0]);
+            Check.due("its HOLE, CLOCK " + clock, x.lost(clock, 0, 0, 1), lost[clock][1]);
+            Check.due("SOUGHT of CLOCK " + clock, x.sought(clock, 0, LEAK, 0, 0), leaks[clock]);
+            Check.due("the other CLOCK is worn", x.mended(1 - clock, 0, 0, 1, 0), 0);
+            Check.due("its SUPPLY, CLOCK " + clock, x.lost(clock, 0, 0, 2), lost[clock][2]);
+        }
+    }
+
     // ---- how often they are done
 
     private static void searchesThatAreRefused() {
-        Check.by("UNKNOWN: clock, season; OUTSIDE; STATE: sought(), lost() were done 20 times together");
-        DroppingBalls x = withMarks("10");
+        Check.by("UNKNOWN: clock, season; OUTSIDE: kind, vessel, what; STATE: sought(), lost() were done 20 times together",
+                "OUTSIDE: vessel (one that the CLOCK has), what; STATE, as sought()");
+        DroppingBalls x = Check.withMarks("10");
         int[][] unknown = {{-1, 0}, {1, 0}, {0, -1}, {0, 4}};
         for (int round = 0; round <= 1; round++) {
             for (int[] u : unknown) {
@@ -361,7 +377,7 @@ public final class LogEdgesTest {
 
     private static void twentySearches() {
         Check.by("STATE: sought(), lost() were done 20 times together");
-        DroppingBalls x = withMarks("10");
+        DroppingBalls x = Check.withMarks("10");
         for (int i = 0; i < 20; i++) {
             Check.due("how often ahead of it", x.count(5), i);
             int answer = i % 3 == 0 ? x.lost(0, 0, 0, 0) : x.sought(0, 0, COLD, 0, 0);
@@ -380,8 +396,8 @@ public final class LogEdgesTest {
     }
 
     private static void twentyOfEach() {
-        DroppingBalls x = withMarks("10");
-        DroppingBalls y = withMarks("10");
+        DroppingBalls x = Check.withMarks("10");
+        DroppingBalls y = Check.withMarks("10");
         x.log(0, 0);
         y.log(0, 0);
         for (int i = 0; i < 20; i++) {

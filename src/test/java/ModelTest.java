@@ -2,7 +2,7 @@ import java.util.Random;
 
 /** Runs of calls on an object and on a Model: each answer is to be the same. */
 public final class ModelTest {
-    private static final int RUNS = 40;
+    private static final int RUNS = 60;
     /** A run ends behind so many calls: the last step has fewer than thirty, of 512 that are promised. */
     private static final int COMPARED = 480;
     private static final int[] WILD = {-1002, -101, -2, -1, 0, 1, 2, 3, 4, 5, 7, 8, 12, 20, 29, 30, 40, 52, 72, 95, 96,
@@ -39,8 +39,12 @@ public final class ModelTest {
         return random.nextInt(most + 1);
     }
 
+    /** A number of those that fit, one in five the least or the greatest of them, and now and then a wild one. */
     private int from(int least, int most) {
-        return random.nextInt(100) < wildness ? WILD[upTo(WILD.length - 1)] : least + upTo(most - least);
+        if (random.nextInt(100) < wildness) {
+            return WILD[upTo(WILD.length - 1)];
+        }
+        return upTo(4) > 0 ? least + upTo(most - least) : upTo(1) == 0 ? least : most;
     }
 
     private void opening() {

@@ -37,11 +37,6 @@ public final class RecordEdgesTest {
         Check.end();
     }
 
-    /** A CLOCK whose BALL of MARK m drops on TICK m - 1. */
-    private static DroppingBalls withMarks(String marks) {
-        return Check.with("10x10h10=10x99;s10;m" + marks);
-    }
-
     private static void spanIs(DroppingBalls x, int fault, int ball, int first, int last) {
         Check.due("the first TICK of BALL " + ball, x.span(0, 0, fault, ball, 0), first);
         Check.due("the last TICK of BALL " + ball, x.span(0, 0, fault, ball, 1), last);
@@ -50,10 +45,10 @@ public final class RecordEdgesTest {
     // ---- RECORDS
 
     private static void spansFromBallToBall() {
-        Check.by("from the TICK of BALL i (0, if NONE) to the TICK ahead of that of the next one (95, if there is none)");
+        Check.by("from the TICK of BALL i (0, if NONE) to the TICK ahead of that of the next one");
         for (int first = 1; first <= 96; first += 5) {
             for (int second = first + 1; second <= 96; second += 9) {
-                DroppingBalls x = withMarks(first + "," + second);
+                DroppingBalls x = Check.withMarks(first + "," + second);
                 spanIs(x, NONE, NONE, first == 1 ? NONE : 0, first == 1 ? NONE : first - 2);
                 spanIs(x, NONE, 0, first - 1, second - 2);
                 spanIs(x, NONE, 1, second - 1, 95);
@@ -70,7 +65,7 @@ public final class RecordEdgesTest {
     }
 
     private static void spansAtTheEndsOfTheDay() {
-        DroppingBalls x = withMarks("1,2,95,96");
+        DroppingBalls x = Check.withMarks("1,2,95,96");
         spanIs(x, NONE, NONE, NONE, NONE);
         spanIs(x, NONE, 0, 0, 0);
         spanIs(x, NONE, 1, 1, 93);
@@ -79,7 +74,7 @@ public final class RecordEdgesTest {
     }
 
     private static void noneBetween() {
-        Check.by("(there is no SPAN, if BALL i does not drop, or none is between)");
+        Check.by("there is no SPAN, if BALL i does not drop, or none is between");
         DroppingBalls x = Check.with("10x10h10=5x99;s10;m1,2,3,4,6");
         spanIs(x, NONE, NONE, NONE, NONE);
         spanIs(x, NONE, 0, NONE, NONE);
@@ -94,8 +89,8 @@ public final class RecordEdgesTest {
     }
 
     private static void ballsThatDoNotDrop() {
-        Check.by("(95, if there is none or it does not drop)");
-        DroppingBalls x = withMarks("1,97,98");
+        Check.by("95, if there is none or it does not drop");
+        DroppingBalls x = Check.withMarks("1,97,98");
         spanIs(x, NONE, NONE, NONE, NONE);
         spanIs(x, NONE, 0, 0, 95);
         spanIs(x, NONE, 1, NONE, NONE);
@@ -211,7 +206,8 @@ public final class RecordEdgesTest {
     }
 
     private static void imageOfTheLog() {
-        Check.by("An IMAGE is kept: how many BALLS THE LOG tells of; It goes on from the IMAGE: how many BALLS THE LOG tells of");
+        Check.by("An IMAGE is kept (one; the latest): how many BALLS THE LOG tells of",
+                "It goes on from the IMAGE: how many BALLS THE LOG tells of");
         for (int kept = 0; kept <= 12; kept += 3) {
             DroppingBalls x = new DroppingBalls();
             for (int ball = 0; ball < kept; ball++) {

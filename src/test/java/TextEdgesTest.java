@@ -236,7 +236,8 @@ public final class TextEdgesTest {
     }
 
     private static void eachNumber() {
-        Check.by("an AREA (1 to 30), a HEIGHT (1 to 60), a HOLE (1 to 40); AREA (1 to 99), HEIGHT (1 to 99); SUPPLY (0 to 60); MARKS (1 to 99)");
+        Check.by("an AREA (1 to 30), \"x\", a HEIGHT (1 to 60), \"h\", a HOLE (1 to 40)", "AREA (1 to 99), \"x\", HEIGHT (1 to 99) of the CYLINDER",
+                "SUPPLY (0 to 60)", "MARKS (1 to 12) with \",\" between, each greater than the one ahead (1 to 99)");
         for (int vessels = 1; vessels <= 3; vessels++) {
             for (int i = 0; i <= 3 * vessels + 3; i++) {
                 for (int v = 0; v <= 120; v++) {
@@ -271,7 +272,7 @@ public final class TextEdgesTest {
     }
 
     private static void numbersLeftOut() {
-        Check.by("an AREA, \"x\", a HEIGHT, \"h\", a HOLE; then \"=\", AREA, \"x\", HEIGHT; then \";s\", SUPPLY; then \";m\", MARKS");
+        Check.by("an AREA (1 to 30), \"x\", a HEIGHT (1 to 60), \"h\", a HOLE (1 to 40); then \"=\", AREA", "then \";s\", SUPPLY", "then \";m\", MARKS");
         for (int vessels = 1; vessels <= 3; vessels++) {
             for (int i = 0; i <= 3 * vessels + 3; i++) {
                 refused(text(vessels, i, ""), placeOf(vessels, i));
@@ -281,27 +282,19 @@ public final class TextEdgesTest {
         }
     }
 
-    private static String marks(int many) {
-        StringBuilder marks = new StringBuilder();
-        for (int m = 1; m <= many; m++) {
-            marks.append(m > 1 ? "," : "").append(m);
-        }
-        return marks.toString();
-    }
-
     private static void oneToTwelveMarks() {
         Check.by("MARKS (1 to 12) with \",\" between");
         String ahead = "1x1h1=1x1;s0;m";
         refused(ahead, ahead.length());
         refused(ahead + ",1", ahead.length());
         for (int many = 1; many <= 12; many++) {
-            DroppingBalls x = accepted(ahead + marks(many));
+            DroppingBalls x = accepted(ahead + Check.marks(many, 1));
             Check.due(many + " marks", x.told(0, 4), many);
             Check.due("the last of " + many, x.told(0, 39 + many), many);
             Check.due("none behind " + many, x.told(0, 40 + many), many < 12 ? NONE : OUTSIDE);
-            refused(ahead + marks(many) + ",", ahead.length() + marks(many).length() + (many < 12 ? 1 : 0));
+            refused(ahead + Check.marks(many, 1) + ",", ahead.length() + Check.marks(many, 1).length() + (many < 12 ? 1 : 0));
         }
-        refused(ahead + marks(13), ahead.length() + marks(12).length());
+        refused(ahead + Check.marks(13, 1), ahead.length() + Check.marks(12, 1).length());
     }
 
     private static void eachMarkGreater() {

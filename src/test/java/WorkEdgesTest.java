@@ -10,8 +10,7 @@ public final class WorkEdgesTest {
     private static final int COUNT = 4;
     private static final int[] LEAST = {0, 0, 0, 1, 2};
     private static final int[] MOST = {0, 9, 3, 9, 5};
-    private static final String TWELVE = "1,2,3,4,5,6,7,8,9,10,11,12";
-    private static final String THIRDS = "1,4,7,10,13,16,19,22,25,28,31,34";
+    private static final String TWELVE = Check.marks(12, 1);
 
     private WorkEdgesTest() {
     }
@@ -34,25 +33,13 @@ public final class WorkEdgesTest {
         figuresStick();
         whatSticksFirst();
         cranksUntilTheLastTick();
+        cranksOfAllBalls();
         counts();
         cranksAheadOfBalls();
         atOnceGoesOnFirst();
         whatShowsTells();
         twentyFigures();
         Check.end();
-    }
-
-    /** A CLOCK whose BALL of MARK m drops on TICK m - 1. */
-    private static DroppingBalls withMarks(String marks) {
-        return Check.with("10x10h10=10x99;s10;m" + marks);
-    }
-
-    private static String firstOf(String marks, int many) {
-        int end = -1;
-        for (int i = 0; i < many; i++) {
-            end = marks.indexOf(',', end + 1);
-        }
-        return end < 0 ? marks : marks.substring(0, end);
     }
 
     private static void showing(String name, DroppingBalls x, int strokes, int out, int stuck, int tick) {
@@ -96,7 +83,7 @@ public final class WorkEdgesTest {
     }
 
     private static void numbersOfFaults() {
-        Check.by("with a VESSEL v, a number n (1 to 20) and a TICK c (0 to 95); OUTSIDE: kind, vessel (0 to 2), n, from");
+        Check.by("with a VESSEL v, a number n (1 to 20) and a TICK c (0 to 95)", "OUTSIDE: kind, vessel (0 to 2), n, from");
         int[] extremes = {Integer.MIN_VALUE, Integer.MAX_VALUE};
         for (int v = -5; v <= 100; v++) {
             faulty(v, 0, 1, 0, v >= 0 && v <= 4);
@@ -166,7 +153,7 @@ public final class WorkEdgesTest {
     }
 
     private static void numbersOfWorks() {
-        Check.by("OUTSIDE: kind, n (0 of a WORK); a GONG (n 0 to 9), DOOR n (0 to 3), a CRANK (n 1 to 9), a COUNT (n 2 to 5)");
+        Check.by("OUTSIDE: kind, n (0 of a WORK)", "a GONG (n 0 to 9)", "a FIGURE at DOOR n (0 to 3)", "a CRANK (n 1 to 9)", "a COUNT (n 2 to 5)");
         for (int kind = -3; kind <= 8; kind++) {
             for (int n = -3; n <= 13; n++) {
                 work(kind, n, kind >= 0 && kind <= 4 && n >= LEAST[kind] && n <= MOST[kind]);
@@ -253,7 +240,7 @@ public final class WorkEdgesTest {
 
     private static void noHead() {
         Check.by("Each BALL, as it drops, strikes the HEAD (if one is told)");
-        DroppingBalls x = withMarks(TWELVE);
+        DroppingBalls x = Check.withMarks(TWELVE);
         showing("no WORKS", x, 0, 0, NONE, NONE);
         x.work(GONG, 9, NONE);
         x.work(FIGURE, 0, NONE);
@@ -272,7 +259,7 @@ public final class WorkEdgesTest {
         Check.by("a GONG (n 0 to 9) gives as many strokes as BALLS have struck the HEAD so far, and n");
         for (int balls = 1; balls <= 12; balls++) {
             for (int n = 0; n <= 9; n++) {
-                DroppingBalls x = withMarks(firstOf(TWELVE, balls));
+                DroppingBalls x = Check.withMarks(Check.marks(balls, 1));
                 x.work(GONG, n, NONE);
                 x.head(0);
                 showing("GONG of " + n + ", " + balls + " BALLS", x, balls * (balls + 1) / 2 + balls * n, 0, NONE, NONE);
@@ -282,7 +269,7 @@ public final class WorkEdgesTest {
 
     private static void tenGongs() {
         Check.by("and strikes on");
-        DroppingBalls x = withMarks("1,2");
+        DroppingBalls x = Check.withMarks("1,2");
         for (int i = 0; i < 10; i++) {
             x.work(i % 2 == 0 ? GONG : 0, 0, i - 1);
         }
@@ -296,7 +283,7 @@ public final class WorkEdgesTest {
         Check.by("a FIGURE at DOOR n (0 to 3) comes out, if none is out at that DOOR");
         for (int first = 0; first <= 3; first++) {
             for (int second = 0; second <= 3; second++) {
-                DroppingBalls x = withMarks("96");
+                DroppingBalls x = Check.withMarks("96");
                 x.work(GONG, 0, NONE);
                 x.work(FIGURE, second, 0);
                 x.work(FIGURE, first, 1);
@@ -310,7 +297,7 @@ public final class WorkEdgesTest {
     private static void figuresStayOut() {
         Check.by("stays out on this TICK and the two behind it");
         for (int behind = 1; behind <= 5; behind++) {
-            DroppingBalls x = withMarks("1," + (1 + behind));
+            DroppingBalls x = Check.withMarks("1," + (1 + behind));
             x.work(GONG, 0, NONE);
             x.work(FIGURE, 3, 0);
             x.head(1);
@@ -325,7 +312,7 @@ public final class WorkEdgesTest {
 
     private static void figuresStick() {
         Check.by("else it STICKS: from then on nothing strikes it");
-        DroppingBalls x = withMarks("1,3,9,20,96");
+        DroppingBalls x = Check.withMarks("1,3,9,20,96");
         x.work(GONG, 0, NONE);
         x.work(FIGURE, 0, 0);
         x.work(0, 0, 1);
@@ -333,7 +320,7 @@ public final class WorkEdgesTest {
         showing("it does not come out again", x, 1, 1, 1, 2);
         Check.due("the one time", x.shows(0, 0, NONE, 10), 1);
         Check.due("no other time", x.shows(0, 0, NONE, 11), NONE);
-        DroppingBalls again = withMarks("1,4,7");
+        DroppingBalls again = Check.withMarks("1,4,7");
         again.work(FIGURE, 0, NONE);
         again.work(FIGURE, 0, 0);
         again.head(1);
@@ -343,17 +330,17 @@ public final class WorkEdgesTest {
 
     private static void whatSticksFirst() {
         Check.by("2 the first WORK that STICKS (NONE), 3 the TICK on which it does (NONE)");
-        DroppingBalls x = withMarks("1,2,3");
+        DroppingBalls x = Check.withMarks("1,2,3");
         x.work(FIGURE, 1, NONE);
         x.work(FIGURE, 1, 0);
         x.head(1);
         showing("the second one ahead of the first", x, 0, 1, 0, 0);
-        DroppingBalls y = withMarks("1,2");
+        DroppingBalls y = Check.withMarks("1,2");
         y.work(FIGURE, 1, NONE);
         y.work(FIGURE, 2, 0);
         y.head(1);
         showing("the first one on TICK 1", y, 0, 2, 1, 1);
-        DroppingBalls last = withMarks("94,96");
+        DroppingBalls last = Check.withMarks("94,96");
         last.work(FIGURE, 0, NONE);
         last.head(0);
         showing("on the last TICK", last, 0, 1, 0, 95);
@@ -363,7 +350,7 @@ public final class WorkEdgesTest {
         Check.by("a CRANK (n 1 to 9) strikes on n TICKS later (not, if that is behind TICK 95)");
         for (int n = 1; n <= 9; n++) {
             for (int tick = 85; tick <= 95; tick++) {
-                DroppingBalls x = withMarks(String.valueOf(tick + 1));
+                DroppingBalls x = Check.withMarks(String.valueOf(tick + 1));
                 x.work(FIGURE, 0, NONE);
                 x.work(GONG, 0, 0);
                 x.work(CRANK, n, 1);
@@ -371,7 +358,7 @@ public final class WorkEdgesTest {
                 boolean strikes = tick + n <= 95;
                 showing("CRANK of " + n + " on TICK " + tick, x, strikes ? 1 : 0, strikes ? 1 : 0, NONE, NONE);
             }
-            DroppingBalls x = withMarks("1,2");
+            DroppingBalls x = Check.withMarks("1,2");
             x.work(FIGURE, 0, NONE);
             x.work(CRANK, n, 0);
             x.head(1);
@@ -379,11 +366,29 @@ public final class WorkEdgesTest {
         }
     }
 
+    /** Twelve BALLS through nine CRANKS: as many of them as there can be in a DAY. */
+    private static void cranksOfAllBalls() {
+        for (int n = 1; n <= 9; n++) {
+            DroppingBalls x = Check.withMarks(TWELVE);
+            x.work(GONG, 0, NONE);
+            for (int i = 1; i < 10; i++) {
+                x.work(CRANK, n, i - 1);
+            }
+            x.head(9);
+            int strokes = 0;
+            for (int ball = 1; ball <= 12; ball++) {
+                int tick = ball - 1 + 9 * n;
+                strokes += tick > 95 ? 0 : Math.min(12, tick);
+            }
+            showing("nine CRANKS of " + n, x, strokes, 0, NONE, NONE);
+        }
+    }
+
     private static void counts() {
         Check.by("a COUNT (n 2 to 5) strikes on at once each n-th time that it is struck");
         for (int n = 2; n <= 5; n++) {
             for (int balls = 1; balls <= 12; balls++) {
-                DroppingBalls x = withMarks(firstOf(TWELVE, balls));
+                DroppingBalls x = Check.withMarks(Check.marks(balls, 1));
                 x.work(GONG, 0, NONE);
                 x.work(COUNT, n, 0);
                 x.head(1);
@@ -398,7 +403,7 @@ public final class WorkEdgesTest {
 
     private static void cranksAheadOfBalls() {
         Check.by("On a TICK first what comes of CRANKS, in the order in which these were struck, then BALLS, in their order");
-        DroppingBalls x = withMarks("1,2");
+        DroppingBalls x = Check.withMarks("1,2");
         x.work(GONG, 0, NONE);
         x.work(CRANK, 1, 0);
         x.head(1);
@@ -408,7 +413,7 @@ public final class WorkEdgesTest {
         together.work(CRANK, 1, 0);
         together.head(1);
         showing("two BALLS, then two CRANKS", together, 2 + 2, 0, NONE, NONE);
-        DroppingBalls order = withMarks("1,5");
+        DroppingBalls order = Check.withMarks("1,5");
         order.work(FIGURE, 0, NONE);
         order.work(CRANK, 4, 0);
         order.work(FIGURE, 0, 1);
@@ -440,7 +445,7 @@ public final class WorkEdgesTest {
 
     private static void whatShowsTells() {
         Check.by("OUTSIDE: what (10 to 29 else)");
-        DroppingBalls x = withMarks("1");
+        DroppingBalls x = Check.withMarks("1");
         for (int what = -5; what <= 45; what++) {
             int want = what == 0 || what == 1 ? 0 : what == 2 || what == 3 || what >= 10 && what <= 29 ? NONE : OUTSIDE;
             Check.due("shows(0, 0, NONE, " + what + ")", x.shows(0, 0, NONE, what), want);
@@ -455,7 +460,7 @@ public final class WorkEdgesTest {
         int[] doors = {1, 3, 4, 3, 4};
         int[] balls = {12, 6, 5, 7, 12};
         for (int k = 0; k < doors.length; k++) {
-            DroppingBalls x = withMarks(firstOf(THIRDS, balls[k]));
+            DroppingBalls x = Check.withMarks(Check.marks(balls[k], 3));
             for (int door = 0; door < doors[k]; door++) {
                 x.work(FIGURE, door, door - 1);
             }

@@ -30,11 +30,6 @@ public final class WorksTest {
         Check.end();
     }
 
-    /** A CLOCK whose BALL of MARK m drops on TICK m - 1. */
-    private static DroppingBalls withMarks(String marks) {
-        return Check.with("10x10h10=10x99;s10;m" + marks);
-    }
-
     private static void showing(String name, DroppingBalls x, int strokes, int out, int stuck, int tick) {
         Check.due(name + ": strokes", x.shows(0, 0, NONE, 0), strokes);
         Check.due(name + ": came out", x.shows(0, 0, NONE, 1), out);
@@ -129,7 +124,7 @@ public final class WorksTest {
     }
 
     private static void gongs() {
-        DroppingBalls x = withMarks("1,5,9");
+        DroppingBalls x = Check.withMarks("1,5,9");
         showing("no head", x, 0, 0, NONE, NONE);
         x.work(GONG, 2, NONE);
         showing("gong, no head", x, 0, 0, NONE, NONE);
@@ -146,12 +141,12 @@ public final class WorksTest {
     }
 
     private static void figures() {
-        DroppingBalls x = withMarks("1,4,7");
+        DroppingBalls x = Check.withMarks("1,4,7");
         x.work(GONG, 0, NONE);
         x.work(FIGURE, 0, 0);
         x.head(1);
         showing("figure each third tick", x, 1 + 2 + 3, 3, NONE, NONE);
-        DroppingBalls y = withMarks("1,3,10");
+        DroppingBalls y = Check.withMarks("1,3,10");
         y.work(GONG, 0, NONE);
         y.work(FIGURE, 0, 0);
         y.head(1);
@@ -161,14 +156,14 @@ public final class WorksTest {
     }
 
     private static void doors() {
-        DroppingBalls x = withMarks("1,2,3,4");
+        DroppingBalls x = Check.withMarks("1,2,3,4");
         x.work(GONG, 9, NONE);
         x.work(FIGURE, 3, 0);
         x.work(FIGURE, 3, 1);
         x.head(2);
         // TICK 0: 2 comes out, 1 sticks; TICK 1: 2 sticks.
         showing("two figures at a door", x, 0, 1, 1, 0);
-        DroppingBalls y = withMarks("1,2,3,4");
+        DroppingBalls y = Check.withMarks("1,2,3,4");
         y.work(GONG, 9, NONE);
         y.work(FIGURE, 2, 0);
         y.work(FIGURE, 3, 1);
@@ -179,7 +174,7 @@ public final class WorksTest {
     }
 
     private static void cranks() {
-        DroppingBalls x = withMarks("1,5,9");
+        DroppingBalls x = Check.withMarks("1,5,9");
         x.work(GONG, 0, NONE);
         x.work(CRANK, 5, 0);
         x.work(CRANK, 4, 0);
@@ -187,7 +182,7 @@ public final class WorksTest {
         showing("crank 5", x, 2 + 3 + 3, 0, NONE, NONE);
         x.head(2);
         showing("crank 4: ahead of the ball", x, 1 + 2 + 3, 0, NONE, NONE);
-        DroppingBalls y = withMarks("94,95,96");
+        DroppingBalls y = Check.withMarks("94,95,96");
         y.work(GONG, 0, NONE);
         y.work(CRANK, 1, 0);
         y.work(CRANK, 1, 1);
@@ -205,7 +200,7 @@ public final class WorksTest {
 
     /** On TICK 7 the first crank (struck on 3) strikes ahead of the second (struck on 4). */
     private static void crankOrder() {
-        DroppingBalls x = withMarks("1,4");
+        DroppingBalls x = Check.withMarks("1,4");
         x.work(FIGURE, 0, NONE);
         x.work(CRANK, 3, 0);
         x.work(FIGURE, 0, 1);
@@ -219,7 +214,7 @@ public final class WorksTest {
 
     /** Twelve BALLS through nine cranks: the gong is struck on TICKS 9 to 20. */
     private static void manyCranks() {
-        DroppingBalls x = withMarks("1,2,3,4,5,6,7,8,9,10,11,12");
+        DroppingBalls x = Check.withMarks("1,2,3,4,5,6,7,8,9,10,11,12");
         x.work(GONG, 0, NONE);
         for (int i = 1; i < 10; i++) {
             x.work(CRANK, 1, i - 1);
@@ -233,7 +228,7 @@ public final class WorksTest {
     }
 
     private static void counts() {
-        DroppingBalls x = withMarks("1,2,3,4,5,6,7");
+        DroppingBalls x = Check.withMarks("1,2,3,4,5,6,7");
         x.work(GONG, 0, NONE);
         x.work(COUNT, 3, 0);
         x.work(COUNT, 2, 1);
@@ -245,7 +240,7 @@ public final class WorksTest {
     }
 
     private static void manyFigures() {
-        DroppingBalls x = withMarks("1,4,7,10,13,16,19,22,25,28,31,34");
+        DroppingBalls x = Check.withMarks("1,4,7,10,13,16,19,22,25,28,31,34");
         for (int door = 0; door < 4; door++) {
             x.work(FIGURE, door, door - 1);
         }
@@ -258,7 +253,7 @@ public final class WorksTest {
     }
 
     private static void promise18Refusals() {
-        DroppingBalls x = withMarks("1");
+        DroppingBalls x = Check.withMarks("1");
         int[] outside = {-1, 4, 9, 30, Integer.MIN_VALUE, Integer.MAX_VALUE};
         for (int what : outside) {
             Check.due("shows: what " + what, x.shows(0, 0, NONE, what), OUTSIDE);
