@@ -481,10 +481,10 @@ public final class DroppingBalls {
             h = mixedClock(h, i);
         }
         for (int i = 0; i < faultCount; i++) {
-            h = mixedFault(h, faults[i]);
+            h = mixedFault(h, faultOf(i));
         }
         for (int i = 0; i < workCount; i++) {
-            h = mixedWork(h, works[i]);
+            h = mixedWork(h, workOf(i));
         }
         h = mixed(h, setting.head);
         for (int ball = 0; ball < MOST_BALLS; ball++) {
@@ -692,15 +692,15 @@ public final class DroppingBalls {
     }
 
     private Clock clockOf(int clock) {
-        return isIn(clock, 0, clockCount - 1) ? clocks[clock] : null;
+        return isIn(clock, 0, clockCount - 1) && clock < MOST_CLOCKS ? clocks[clock] : null;
     }
 
     private Fault faultOf(int fault) {
-        return isIn(fault, 0, faultCount - 1) ? faults[fault] : null;
+        return isIn(fault, 0, faultCount - 1) && fault < MOST_FAULTS ? faults[fault] : null;
     }
 
     private Work workOf(int work) {
-        return isIn(work, 0, workCount - 1) ? works[work] : null;
+        return isIn(work, 0, workCount - 1) && work < MOST_WORKS ? works[work] : null;
     }
 
     private int warmthOf(int season) {

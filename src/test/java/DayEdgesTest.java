@@ -203,10 +203,10 @@ public final class DayEdgesTest {
             }
         }
         DroppingBalls x = Check.withMarks("1,96,97");
-        int[] ticks = {-1, 0, 1, 2, 3, Integer.MIN_VALUE, Integer.MAX_VALUE};
+        int[] balls = {-1, 0, 1, 2, 3, Integer.MIN_VALUE, Integer.MAX_VALUE};
         int[] want = {UNKNOWN, 0, 95, NONE, UNKNOWN, UNKNOWN, UNKNOWN};
-        for (int i = 0; i < ticks.length; i++) {
-            Check.due("BALL " + ticks[i], x.drops(0, 0, NONE, ticks[i]), want[i]);
+        for (int i = 0; i < balls.length; i++) {
+            Check.due("BALL " + balls[i], x.drops(0, 0, NONE, balls[i]), want[i]);
         }
     }
 
