@@ -1279,7 +1279,7 @@ public final class DroppingBalls {
         void goThrough(int tick, int balls, Work head) {
             // What is struck now strikes on at a later TICK: only the CRANKS struck ahead count.
             int struckAhead = crankCount;
-            for (int i = 0; i < struckAhead && i < cranks.length; i++) {
+            for (int i = 0; i < struckAhead && i < cranks.length && i < crankTicks.length; i++) {
                 if (crankTicks[i] == tick && cranks[i] != null) {
                     strike(cranks[i].next, tick);
                 }

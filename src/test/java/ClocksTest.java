@@ -22,6 +22,7 @@ public final class ClocksTest {
     }
 
     private static void promise1() {
+        Check.by("`DroppingBalls()`: No CLOCKS, no WORKS.");
         DroppingBalls x = new DroppingBalls();
         for (int what = 0; what <= 5; what++) {
             Check.due("new: count " + what, x.count(what), 0);
@@ -36,6 +37,8 @@ public final class ClocksTest {
     }
 
     private static void promise2() {
+        Check.by("Letters come behind THE PAGE, up to eight, told by their codes in the bytes of w, the lowest byte first, until a byte that is 0: how many THE PAGE has.",
+                "OUTSIDE: a byte above 126, or one behind a 0 that is not 0; FULL: above 80.");
         DroppingBalls x = new DroppingBalls();
         Check.due("letters: none", x.letters(0), 0);
         Check.due("letters: one", x.letters('a'), 1);
@@ -66,6 +69,7 @@ public final class ClocksTest {
     }
 
     private static void promise3() {
+        Check.by("THE PAGE is empty: how many letters it had.");
         DroppingBalls x = new DroppingBalls();
         Check.due("blank: empty", x.blank(), 0);
         x.letters(Check.packed("10x1"));
@@ -75,6 +79,7 @@ public final class ClocksTest {
     }
 
     private static void promise4Signs() {
+        Check.by("The place (from 0) of the first letter of THE PAGE that no CLOCK has there, behind those ahead of it; how many letters it has, if there is none.");
         DroppingBalls x = new DroppingBalls();
         Check.due("fault: empty", x.fault(), 0);
         String text = "10x20h30>1x2h3=40x50;s6;m7,8";
@@ -106,6 +111,7 @@ public final class ClocksTest {
     }
 
     private static void promise4Numbers() {
+        Check.by("Numbers have no 0 ahead.");
         Check.due("fault: area 0", Check.faultIn("0"), 0);
         Check.due("fault: area 30", Check.faultIn("30x"), 3);
         Check.due("fault: area 31", Check.faultIn("31"), 1);
@@ -130,6 +136,7 @@ public final class ClocksTest {
     }
 
     private static void promise4Marks() {
+        Check.by("MARKS (1 to 12) with \",\" between, each greater than the one ahead (1 to 99).");
         String ahead = "1x1h1=1x1;s0;m";
         int place = ahead.length();
         Check.due("fault: mark 0", Check.faultIn(ahead + "0"), place);
@@ -151,6 +158,7 @@ public final class ClocksTest {
     }
 
     private static void promise5() {
+        Check.by("THE PAGE is read as a CLOCK: its number; THE PAGE is empty then. STATE: it is none; FULL.");
         DroppingBalls x = new DroppingBalls();
         Check.due("clock: empty page", x.clock(), DroppingBalls.STATE);
         Check.type(x, "1x1h1=1x1;s0;m");
@@ -185,6 +193,9 @@ public final class ClocksTest {
     }
 
     private static void promise6() {
+        Check.by("Of a CLOCK: what = 0 how many VESSELS, 1 AREA, 2 HEIGHT of the CYLINDER, 3 SUPPLY, 4 how many MARKS,",
+                "10 times a VESSEL and 10, 11, 12 its AREA, HEIGHT, HOLE (NONE: no such VESSEL), 40 and i MARK i (NONE).",
+                "UNKNOWN; OUTSIDE: what (10 to 32 with a last figure 0 to 2, 40 to 51 else).");
         DroppingBalls x = Check.with("10x20h30>1x2h3=40x50;s6;m7,8,99");
         int[] what = {0, 1, 2, 3, 4, 10, 11, 12, 20, 21, 22, 30, 31, 32, 40, 41, 42, 43, 51};
         int[] want = {2, 40, 50, 6, 3, 10, 20, 30, 1, 2, 3, -1, -1, -1, 7, 8, 99, -1, -1};
@@ -204,6 +215,7 @@ public final class ClocksTest {
     }
 
     private static void promise7() {
+        Check.by("WARMTH (what = 0), DAYLIGHT (1) of a SEASON becomes v: what it was. UNKNOWN: season; OUTSIDE.");
         DroppingBalls x = new DroppingBalls();
         for (int s = 0; s < 4; s++) {
             Check.due("season: warmth at first", x.season(s, 0, 50 + s), 100);

@@ -29,6 +29,7 @@ public final class DesignsTest {
     }
 
     private static void promise19() {
+        Check.by("WORST of a CLOCK, without a FAULT: what = 0 its size, 1 the SEASON, 2 the BALL by which it is (the first). UNKNOWN; OUTSIDE.");
         DroppingBalls x = Check.with(EXACT);
         worstIs(x, 0, 0, 0);
         x.season(2, 1, 72);
@@ -55,6 +56,7 @@ public final class DesignsTest {
     }
 
     private static void promise20() {
+        Check.by("Which of two CLOCKS has the lesser WORST (of like ones the first told here). UNKNOWN.");
         DroppingBalls x = Check.with(EXACT);
         Check.clock(x, STEADY);
         Check.clock(x, EXACT);
@@ -73,6 +75,7 @@ public final class DesignsTest {
     }
 
     private static void promise21() {
+        Check.by("BEST MARK of an HOUR in a SEASON, without a FAULT; NONE: there is none. UNKNOWN: clock, season, hour.");
         DroppingBalls x = Check.with(EXACT);
         for (int hour = 0; hour < 6; hour++) {
             Check.due("mark: hour " + hour, x.mark(0, 0, hour), 8 * hour + 9);
@@ -103,6 +106,7 @@ public final class DesignsTest {
     }
 
     private static void promise22() {
+        Check.by("MENDED; NONE: on no DAY of 0 to 60.");
         DroppingBalls x = Check.with(STEADY);
         Check.due("mended: day 0", x.mended(0, 0, 0, 1, 0), 0);
         // With three more HOLE the second BALL is two early.
@@ -138,6 +142,7 @@ public final class DesignsTest {
     }
 
     private static void promise22Refusals() {
+        Check.by("UNKNOWN: clock, season; OUTSIDE: vessel (0 to 2), days, t (0 to 96).");
         DroppingBalls x = Check.with(STEADY);
         int[][] outside = {{-1, 1, 1}, {3, 1, 1}, {0, 0, 1}, {0, 31, 1}, {0, 1, -1}, {0, 1, 97},
             {0, Integer.MIN_VALUE, 1}};

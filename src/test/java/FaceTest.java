@@ -40,6 +40,7 @@ public final class FaceTest {
     }
 
     public static void main(String[] args) throws Exception {
+        document();
         methods();
         constants();
         members();
@@ -54,6 +55,28 @@ public final class FaceTest {
             kinds.add(kind.getName());
         }
         return m.getReturnType().getName() + " " + m.getName() + "(" + String.join(", ", kinds) + ")";
+    }
+
+    /** That the face above is the document's. */
+    private static void document() throws IOException {
+        Path file = Path.of("../shared/DOC.md");
+        if (!Files.exists(file)) {
+            System.out.println("the document is not here: its face is not looked at");
+            return;
+        }
+        String text = Files.readString(file);
+        String face = text.substring(text.indexOf("```java"), text.indexOf("## Terms"));
+        Check.holds("a final class", face.contains("public final class DroppingBalls {"));
+        Check.holds("its constants", face.contains("public static final int NONE = " + DroppingBalls.NONE + ", UNKNOWN = "
+            + DroppingBalls.UNKNOWN + ", OUTSIDE = " + DroppingBalls.OUTSIDE + ", STATE = " + DroppingBalls.STATE
+            + ", FULL = " + DroppingBalls.FULL + ";"));
+        Check.holds("its constructor", face.contains("public DroppingBalls();"));
+        Matcher told = Pattern.compile("public (int|long) (\\w+)\\(([^)]*)\\);").matcher(face);
+        TreeSet<String> calls = new TreeSet<>();
+        while (told.find()) {
+            calls.add(told.group(1) + " " + told.group(2) + "(" + told.group(3).replaceAll(" \\w+(,|$)", "$1") + ")");
+        }
+        Check.holds("its calls: " + calls, calls.equals(new TreeSet<>(Arrays.asList(FACE))));
     }
 
     private static void methods() {

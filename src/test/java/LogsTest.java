@@ -23,6 +23,7 @@ public final class LogsTest {
     }
 
     private static void promise23() {
+        Check.by("THE LOG of a BALL (0 to 11) becomes a TICK (0 to 95, 96; NONE: it tells nothing): what it was (NONE). UNKNOWN: ball; OUTSIDE.");
         DroppingBalls x = new DroppingBalls();
         Check.due("log: was none", x.log(0, 0), NONE);
         Check.due("log: was 0", x.log(0, 95), 0);
@@ -40,6 +41,7 @@ public final class LogsTest {
     }
 
     private static void promise24() {
+        Check.by("Whether a RUN AGREES: 1, 0. UNKNOWN: clock, season, fault.");
         DroppingBalls x = Check.with(STEADY);
         Check.due("agrees: nothing told", x.agrees(0, 0, NONE), 1);
         x.log(0, 7);
@@ -71,6 +73,7 @@ public final class LogsTest {
     }
 
     private static void promise25() {
+        Check.by("FAULTS by which the RUN AGREES, as bits (bit 8: without one). UNKNOWN: clock, season.");
         DroppingBalls x = Check.with(STEADY);
         Check.due("which: no faults, nothing told", x.which(0, 0), 256);
         x.faulty(0, 0, 1, 0);
@@ -103,6 +106,7 @@ public final class LogsTest {
     }
 
     private static void promise26() {
+        Check.by("SOUGHT: what = 0 how many, 1 the least n, 2 the least c with that, 3 the greatest n (NONE: there are none).");
         DroppingBalls x = Check.with(STEADY);
         soughtIs(x, 2, 0, new int[] {1920, 1, 0, 20});
         x.log(0, 7);
@@ -166,6 +170,7 @@ public final class LogsTest {
     }
 
     private static void promise27() {
+        Check.by("LOST: what = 0 how many, 1 HOLE, 2 SUPPLY of the first one (of least HOLE, then of least SUPPLY; NONE).");
         DroppingBalls x = Check.with("1x1h1=1x1;s0;m1");
         lostIs(x, 40 * 61, 1, 0);
         x.log(0, 0);
@@ -188,6 +193,8 @@ public final class LogsTest {
     }
 
     private static void searchRefusals() {
+        Check.by("UNKNOWN: clock, season; OUTSIDE: kind, vessel, what; STATE: sought(), lost() were done 20 times together.",
+                "UNKNOWN: clock, season; OUTSIDE: vessel (one that the CLOCK has), what; STATE, as sought().");
         DroppingBalls x = Check.with(STEADY);
         int[][] outside = {{0, 0, 0}, {5, 0, 0}, {-1, 0, 0}, {1, -1, 0}, {1, 3, 0}, {1, 0, -1}, {1, 0, 4}};
         for (int[] o : outside) {

@@ -26,6 +26,7 @@ public final class RecordsTest {
     }
 
     private static void promise28() {
+        Check.by("SPAN of a RECORD: what = 0 the first, 1 the last TICK; NONE: there is none. UNKNOWN: ball (NONE: ahead of the first), too; OUTSIDE.");
         DroppingBalls x = Check.with(STEADY);
         spanIs(x, NONE, NONE, 0, 6);
         spanIs(x, NONE, 0, 7, 14);
@@ -58,6 +59,7 @@ public final class RecordsTest {
     }
 
     private static void promise29() {
+        Check.by("Whether a RECORD HOLDS without a FAULT (what = 0: 1, 0), BLAMED (1; NONE: none would).");
         DroppingBalls x = Check.with(STEADY);
         Check.due("record: ahead", x.record(0, 0, 0, 6, 0), 0);
         Check.due("record: first tick", x.record(0, 0, 0, 7, 0), 1);
@@ -80,6 +82,7 @@ public final class RecordsTest {
     }
 
     private static void promise29Refusals() {
+        Check.by("UNKNOWN: clock, season, ball; OUTSIDE: sky (0 to 95), what.");
         DroppingBalls x = Check.with(STEADY);
         Check.due("record: sky -1", x.record(0, 0, 0, -1, 0), OUTSIDE);
         Check.due("record: sky 96", x.record(0, 0, 0, 96, 0), OUTSIDE);
@@ -92,6 +95,8 @@ public final class RecordsTest {
     }
 
     private static void promise30And31() {
+        Check.by("An IMAGE is kept (one; the latest): how many BALLS THE LOG tells of.",
+                "It goes on from the IMAGE: how many BALLS THE LOG tells of. STATE: none was kept.");
         DroppingBalls x = Check.with(STEADY);
         Check.due("restore: none kept", x.restore(), DroppingBalls.STATE);
         x.work(1, 0, NONE);
@@ -142,6 +147,8 @@ public final class RecordsTest {
     }
 
     private static void promise32() {
+        Check.by("How many: 0 CLOCKS, 1 FAULTS, 2 WORKS, 3 letters of THE PAGE, 4 BALLS THE LOG tells of,",
+                "5 how often sought(), lost() were done together. OUTSIDE.");
         DroppingBalls x = Check.with(STEADY);
         Check.clock(x, STEADY);
         x.faulty(0, 0, 1, 0);
@@ -173,6 +180,11 @@ public final class RecordsTest {
     }
 
     private static void promise33() {
+        Check.by("h is 409, then for each of these numbers, in order, 31 times h, and it (as longs, wrapping): of each SEASON WARMTH, DAYLIGHT;",
+                "of each CLOCK what told() tells for 0 to 4, of each VESSEL AREA, HEIGHT, HOLE, MARKS,",
+                "and for SEASON 0, without a FAULT, the TICK of each BALL (NONE), what shows() tells for 0 to 3;",
+                "of each FAULT KIND, VESSEL, n, c; of each WORK KIND, n, next (NONE); the HEAD (NONE), THE LOG of all BALLS (NONE);",
+                "letters of THE PAGE; what count() tells for 0 to 5.");
         DroppingBalls x = new DroppingBalls();
         long h = over(409, 100, 48, 100, 48, 100, 48, 100, 48, -1);
         h = over(h, -1, -1, -1, -1, -1, -1, -1, -1, -1, -1, -1, -1);

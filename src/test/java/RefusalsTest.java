@@ -127,8 +127,9 @@ public final class RefusalsTest {
     }
 
     public static void main(String[] args) {
+        Check.by("Refusals, of several the first as told by each call: UNKNOWN (a number names nothing), OUTSIDE (it is not as told), STATE (as told), FULL; they change nothing.");
         for (Sample sample : Sample.all()) {
-            Check.by("Refusals, of several the first as told by each call, on " + sample.name());
+            System.out.println("on " + sample.name());
             RefusalsTest test = new RefusalsTest(sample);
             for (Object[] call : CALLS) {
                 test.sort(call, new Call((String) call[0]));

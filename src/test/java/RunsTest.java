@@ -25,6 +25,7 @@ public final class RunsTest {
     }
 
     private static void promise13() {
+        Check.by("The TICK on which a BALL drops; NONE: it does not. UNKNOWN: ball, too.");
         DroppingBalls x = Check.with(STEADY);
         for (int ball = 0; ball < 6; ball++) {
             Check.due("drops: ball " + ball, x.drops(0, 0, NONE, ball), 8 * ball + 7);
@@ -51,6 +52,7 @@ public final class RunsTest {
     }
 
     private static void clogs() {
+        Check.by("a CLOG: HOLE of VESSEL v is n less (0 at least);");
         DroppingBalls x = Check.with(STEADY);
         int half = x.faulty(1, 0, 5, 0);
         Check.due("clog: half the hole", x.drops(0, 0, half, 0), 15);
@@ -67,6 +69,7 @@ public final class RunsTest {
     }
 
     private static void wear() {
+        Check.by("a CLOG: HOLE of VESSEL v is n less (0 at least); a WEAR: n more;");
         DroppingBalls x = Check.with(STEADY);
         int wear = x.faulty(2, 0, 10, 0);
         Check.due("wear: ball 0", x.drops(0, 0, wear, 0), 4);
@@ -79,6 +82,7 @@ public final class RunsTest {
     }
 
     private static void leaks() {
+        Check.by("a LEAK: behind 2, n drops (all that there are at most) are gone from VESSEL v;");
         DroppingBalls x = Check.with(STEADY);
         int leak = x.faulty(3, 0, 10, 0);
         Check.due("leak: first tick", x.at(0, 0, leak, 0, 6), 10);
@@ -96,6 +100,7 @@ public final class RunsTest {
     }
 
     private static void colds() {
+        Check.by("COLD: WARMTH is n less, whatever v is.");
         DroppingBalls x = Check.with(STEADY);
         int cold = x.faulty(4, 2, 20, 0);
         Check.due("cold: whatever the vessel is", x.drops(0, 0, cold, 0), 9);
@@ -107,6 +112,7 @@ public final class RunsTest {
     }
 
     private static void faultsOfOtherVessels() {
+        Check.by("(CLOG, WEAR, LEAK of a VESSEL that a CLOCK has not: nothing.)");
         DroppingBalls x = Check.with(STEADY);
         Check.clock(x, "10x10h10>10x10h10=10x50;s0;m1");
         for (int kind = 0; kind <= 3; kind++) {
@@ -123,6 +129,7 @@ public final class RunsTest {
     }
 
     private static void promise14() {
+        Check.by("ERROR (it may be below 0). -1001: UNKNOWN.");
         DroppingBalls x = Check.with(STEADY);
         Check.due("error: ball 0", x.error(0, 0, NONE, 0), -1);
         Check.due("error: ball 5", x.error(0, 0, NONE, 5), -1);
@@ -140,6 +147,8 @@ public final class RunsTest {
     }
 
     private static void promise15() {
+        Check.by("Of a RUN behind a TICK (0 to 95): what = 0 to 2 drops in a VESSEL (NONE: no such VESSEL), 3 drops in the CYLINDER,",
+                "4 how many BALLS have dropped, 5 drops run over so far, 6 leaked so far, 7 how often the SIPHON emptied. OUTSIDE: tick, what.");
         DroppingBalls x = Check.with("10x10h10>10x10h10=10x50;s0;m1");
         int[] first = {90, 90, NONE, 10, 1, 10, 0, 0};
         int[] second = {81, 90, NONE, 19, 1, 10, 0, 0};
@@ -167,6 +176,7 @@ public final class RunsTest {
     }
 
     private static void siphon() {
+        Check.by("If LEVEL of the CYLINDER is HEIGHT or more, and all BALLS have dropped, the SIPHON empties it.");
         DroppingBalls x = Check.with(STEADY);
         Check.due("siphon: ahead", x.at(0, 0, NONE, 48, 3), 490);
         Check.due("siphon: empties", x.at(0, 0, NONE, 49, 3), 0);
@@ -187,6 +197,7 @@ public final class RunsTest {
     }
 
     private static void promise16() {
+        Check.by("EVEN: what = 0 the least, 1 the greatest. OUTSIDE.");
         DroppingBalls x = Check.with(STEADY);
         Check.due("even: least", x.even(0, 0, NONE, 0), 10);
         Check.due("even: greatest", x.even(0, 0, NONE, 1), 10);
@@ -211,6 +222,7 @@ public final class RunsTest {
     }
 
     private static void promise17() {
+        Check.by("MEAN, in lowest terms: part 0 above, 1 below. OUTSIDE.");
         String[] marks = {"1,2,4", "1,2,3", "1,3", "1,2", "9,17,25,33,41,49", "1"};
         int[] above = {92, 31, 35, 71, 0, 48};
         int[] below = {3, 1, 1, 2, 1, 1};

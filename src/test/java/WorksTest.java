@@ -38,6 +38,7 @@ public final class WorksTest {
     }
 
     private static void promise8() {
+        Check.by("A FAULT: its number. OUTSIDE: kind, vessel (0 to 2), n, from; FULL.");
         DroppingBalls x = new DroppingBalls();
         int[][] outside = {{-1, 0, 1, 0}, {5, 0, 1, 0}, {1, -1, 1, 0}, {1, 3, 1, 0}, {1, 0, 0, 0},
             {1, 0, 21, 0}, {0, 0, 0, 0}, {1, 0, 1, -1}, {1, 0, 1, 96}};
@@ -54,6 +55,7 @@ public final class WorksTest {
     }
 
     private static void promise9() {
+        Check.by("A FAULT taken as a KIND: its own number (not that of the KIND); NONE: it is none such (the cast fails). UNKNOWN; OUTSIDE.");
         DroppingBalls x = new DroppingBalls();
         for (int own = 0; own <= 4; own++) {
             x.faulty(own, 0, 1, 0);
@@ -71,6 +73,7 @@ public final class WorksTest {
     }
 
     private static void promise10() {
+        Check.by("A WORK that strikes another one (NONE: none): its number. OUTSIDE: kind, n (0 of a WORK); UNKNOWN: next; FULL.");
         DroppingBalls x = new DroppingBalls();
         int[] least = {0, 0, 0, 1, 2};
         int[] most = {0, 9, 3, 9, 5};
@@ -94,6 +97,7 @@ public final class WorksTest {
     }
 
     private static void promise11() {
+        Check.by("A WORK taken as a KIND: its number; NONE: it is none such (the cast fails). UNKNOWN; OUTSIDE.");
         DroppingBalls x = new DroppingBalls();
         for (int own = 0; own <= 4; own++) {
             x.work(own, own < 3 ? 0 : 2, NONE);
@@ -111,6 +115,7 @@ public final class WorksTest {
     }
 
     private static void promise12() {
+        Check.by("The HEAD becomes a WORK (NONE: none): which it was (NONE). UNKNOWN.");
         DroppingBalls x = new DroppingBalls();
         Check.due("head: none told", x.head(0), UNKNOWN);
         x.work(GONG, 0, NONE);
@@ -124,6 +129,8 @@ public final class WorksTest {
     }
 
     private static void gongs() {
+        Check.by("What WORKS do in a RUN: what = 0 strokes of GONGS,",
+                "a GONG (n 0 to 9) gives as many strokes as BALLS have struck the HEAD so far, and n, and strikes on;");
         DroppingBalls x = Check.withMarks("1,5,9");
         showing("no head", x, 0, 0, NONE, NONE);
         x.work(GONG, 2, NONE);
@@ -141,6 +148,8 @@ public final class WorksTest {
     }
 
     private static void figures() {
+        Check.by("1 how often FIGURES came out, 2 the first WORK that STICKS (NONE), 3 the TICK on which it does (NONE),",
+                "stays out on this TICK and the two behind it, and strikes on; else it STICKS: from then on nothing strikes it;");
         DroppingBalls x = Check.withMarks("1,4,7");
         x.work(GONG, 0, NONE);
         x.work(FIGURE, 0, 0);
@@ -156,6 +165,7 @@ public final class WorksTest {
     }
 
     private static void doors() {
+        Check.by("a FIGURE at DOOR n (0 to 3) comes out, if none is out at that DOOR (itself, too), stays out");
         DroppingBalls x = Check.withMarks("1,2,3,4");
         x.work(GONG, 9, NONE);
         x.work(FIGURE, 3, 0);
@@ -174,6 +184,7 @@ public final class WorksTest {
     }
 
     private static void cranks() {
+        Check.by("a CRANK (n 1 to 9) strikes on n TICKS later (not, if that is behind TICK 95);");
         DroppingBalls x = Check.withMarks("1,5,9");
         x.work(GONG, 0, NONE);
         x.work(CRANK, 5, 0);
@@ -200,6 +211,7 @@ public final class WorksTest {
 
     /** On TICK 7 the first crank (struck on 3) strikes ahead of the second (struck on 4). */
     private static void crankOrder() {
+        Check.by("On a TICK first what comes of CRANKS, in the order in which these were struck, then BALLS, in their order;");
         DroppingBalls x = Check.withMarks("1,4");
         x.work(FIGURE, 0, NONE);
         x.work(CRANK, 3, 0);
@@ -228,6 +240,7 @@ public final class WorksTest {
     }
 
     private static void counts() {
+        Check.by("a COUNT (n 2 to 5) strikes on at once each n-th time that it is struck.");
         DroppingBalls x = Check.withMarks("1,2,3,4,5,6,7");
         x.work(GONG, 0, NONE);
         x.work(COUNT, 3, 0);
@@ -240,6 +253,7 @@ public final class WorksTest {
     }
 
     private static void manyFigures() {
+        Check.by("10 and i: the i-th FIGURE that came out (its WORK; NONE).");
         DroppingBalls x = Check.withMarks("1,4,7,10,13,16,19,22,25,28,31,34");
         for (int door = 0; door < 4; door++) {
             x.work(FIGURE, door, door - 1);
@@ -253,6 +267,7 @@ public final class WorksTest {
     }
 
     private static void promise18Refusals() {
+        Check.by("OUTSIDE: what (10 to 29 else).");
         DroppingBalls x = Check.withMarks("1");
         int[] outside = {-1, 4, 9, 30, Integer.MIN_VALUE, Integer.MAX_VALUE};
         for (int what : outside) {
